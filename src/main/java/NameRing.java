@@ -547,6 +547,7 @@ public final class NameRing {
     private static final class Told {
         int circle;
         int list;
+        /** At most MOST_NODES, and MOST_KEYS: the reader refuses more. */
         int nodes;
         int keys;
         final int[] kinds;
@@ -587,11 +588,11 @@ public final class NameRing {
         }
 
         boolean isNode(int node) {
-            return node >= 0 && node < nodes && node < MOST_NODES;
+            return node >= 0 && node < nodes;
         }
 
         boolean isKey(int key) {
-            return key >= 0 && key < keys && key < MOST_KEYS;
+            return key >= 0 && key < keys;
         }
 
         boolean isPlace(int place) {
@@ -599,7 +600,7 @@ public final class NameRing {
         }
 
         int nodeAt(int place) {
-            for (int node = 0; isNode(node); node++) {
+            for (int node = 0; node < nodes; node++) {
                 if (places[node] == place) {
                     return node;
                 }
@@ -608,7 +609,7 @@ public final class NameRing {
         }
 
         int nodeNamed(long name) {
-            for (int node = 0; isNode(node); node++) {
+            for (int node = 0; node < nodes; node++) {
                 if (nodeNames[node] == name) {
                     return node;
                 }
@@ -617,7 +618,7 @@ public final class NameRing {
         }
 
         int keyNamed(long name) {
-            for (int key = 0; isKey(key); key++) {
+            for (int key = 0; key < keys; key++) {
                 if (keyNames[key] == name) {
                     return key;
                 }
@@ -828,7 +829,7 @@ public final class NameRing {
 
         /** The law may stand ahead of what it is about: so it is read once more for each KEY, at the end. */
         private void layKeys() {
-            for (int key = 0; draft.isKey(key); key++) {
+            for (int key = 0; key < draft.keys; key++) {
                 factKey = key;
                 int place = draft.keyPlaces[key];
                 if (lawBegin != NONE) {
@@ -1363,7 +1364,7 @@ public final class NameRing {
             }
             int from = told.places[node];
             int way = told.way(from, told.places[meant]);
-            for (int key = 0; told.isKey(key); key++) {
+            for (int key = 0; key < told.keys; key++) {
                 if (state.holderOf(key) == meant && told.way(from, told.lies[key]) > way) {
                     state.setHolder(key, node);
                 }
@@ -1449,7 +1450,7 @@ public final class NameRing {
                 return NONE;
             }
             int gone = 0;
-            for (int key = 0; told.isKey(key); key++) {
+            for (int key = 0; key < told.keys; key++) {
                 boolean goes = state.holderOf(key) == node && finder.seek(node, told.lies[key]);
                 if (goes && finder.found != node) {
                     state.setHolder(key, finder.found);
@@ -1460,7 +1461,7 @@ public final class NameRing {
         }
 
         void doRound() {
-            for (int node = 0; told.isNode(node); node++) {
+            for (int node = 0; node < told.nodes; node++) {
                 if (state.isIn(node)) {
                     doFlush(node);
                     doTidy(node);
@@ -1503,7 +1504,7 @@ public final class NameRing {
 
         int astrayKeys() {
             int bits = 0;
-            for (int key = 0; told.isKey(key); key++) {
+            for (int key = 0; key < told.keys; key++) {
                 int holder = state.holderOf(key);
                 if (holder != NONE && holder != ownerOf(told.lies[key], state.inside)) {
                     bits |= 1 << key;
@@ -1514,7 +1515,7 @@ public final class NameRing {
 
         int lostKeys() {
             int bits = 0;
-            for (int key = 0; told.isKey(key); key++) {
+            for (int key = 0; key < told.keys; key++) {
                 if (state.holderOf(key) == NONE) {
                     bits |= 1 << key;
                 }
@@ -1524,7 +1525,7 @@ public final class NameRing {
 
         int ownedBy(int node) {
             int bits = 0;
-            for (int key = 0; told.isKey(key); key++) {
+            for (int key = 0; key < told.keys; key++) {
                 if (ownerOf(told.lies[key], state.inside) == node) {
                     bits |= 1 << key;
                 }
@@ -1534,8 +1535,8 @@ public final class NameRing {
 
         int movedKeys(int node) {
             int many = 0;
-            int others = state.inside ^ 1 << node;
-            for (int key = 0; told.isKey(key); key++) {
+            int others = state.inside ^ (1 << node);
+            for (int key = 0; key < told.keys; key++) {
                 if (ownerOf(told.lies[key], state.inside) != ownerOf(told.lies[key], others)) {
                     many++;
                 }
@@ -1709,7 +1710,7 @@ public final class NameRing {
 
         int mostSteps(int node) {
             int most = 0;
-            for (int key = 0; told.isKey(key); key++) {
+            for (int key = 0; key < told.keys; key++) {
                 if (finder.seek(node, told.lies[key])) {
                     most = Math.max(most, finder.taken);
                 }
@@ -1719,7 +1720,7 @@ public final class NameRing {
 
         int allSteps(int node) {
             int all = 0;
-            for (int key = 0; told.isKey(key); key++) {
+            for (int key = 0; key < told.keys; key++) {
                 if (finder.seek(node, told.lies[key])) {
                     all += finder.taken;
                 }
@@ -1956,7 +1957,7 @@ public final class NameRing {
 
         private boolean fits(Finder finder, int node) {
             for (int i = 0; i < many && i < MOST_SEEN; i++) {
-                if (!finder.seek(node, places[i]) || mores[i] != finder.taken >= bounds[i]) {
+                if (!finder.seek(node, places[i]) || mores[i] != (finder.taken >= bounds[i])) {
                     return false;
                 }
             }

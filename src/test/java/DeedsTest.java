@@ -421,5 +421,24 @@ public final class DeedsTest {
         CHECK.due("who is IN", ring.count(4), 4);
         CHECK.due("no mark 1", ring.mark(1, true), false);
         CHECK.due("who is IN still", ring.count(4), 4);
+        markingWhatIsSeen();
+    }
+
+    /** The SEEN of a MARK is its own, not only how many there are. */
+    private static void markingWhatIsSeen() {
+        NameRing ring = CHECK.ringOf(RING);
+        ring.start(0);
+        ring.join(1, 0);
+        ring.mark(0, false);
+        // 1 is found from a at once, from b over a
+        ring.see(1, 1, true);
+        CHECK.due("b", ring.who(), 2);
+        ring.mark(1, false);
+        CHECK.due("back 0", ring.mark(0, true), true);
+        CHECK.due("both", ring.who(), 3);
+        ring.see(1, 1, false);
+        CHECK.due("a", ring.who(), 1);
+        CHECK.due("back 1", ring.mark(1, true), true);
+        CHECK.due("b again", ring.who(), 2);
     }
 }

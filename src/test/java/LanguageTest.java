@@ -191,6 +191,8 @@ public final class LanguageTest {
         CHECK.due("not 0", lieOf("not 0 * 5", 7, 0), 5);
         CHECK.due("not ( )", lieOf("not ( 7 < 3 )", 7, 0), 1);
         CHECK.due("( )", lieOf("( 2 + 3 ) * 4", 7, 0), 20);
+        CHECK.due("deep", lieOf("((((told))))+not not(not 0)", 7, 0), 8);
+        CHECK.due("deep", lieOf("not not not not told + 4", 7, 0), 5);
         CHECK.due("no blanks", lieOf("(2+3)*4and1", 7, 0), 1);
         // 9000 * 9000 * 9000 is 729000000000; less 170 times 2^32 it is -1144440320 (modulo 100: 80)
         CHECK.due("ints wrap", lieOf("9000 * 9000 * 9000", 7, 0), 80);
