@@ -21,18 +21,6 @@ public final class DeedsTest {
         CHECK.finish("DeedsTest");
     }
 
-    private static void list(NameRing ring, int node, int... due) {
-        for (int i = 0; i < 5; i++) {
-            CHECK.due("listed " + node + " " + i, ring.listed(node, i), i < due.length ? due[i] : -1);
-        }
-    }
-
-    private static void holders(NameRing ring, int... due) {
-        for (int key = 0; key < due.length; key++) {
-            CHECK.due("holder of " + key, ring.key(key, 1), due[key]);
-        }
-    }
-
     private static void nodesAreTold() {
         NameRing ring = CHECK.ringOf(RING);
         int[] kinds = {0, 0, 1, 2, 3};
@@ -64,7 +52,7 @@ public final class DeedsTest {
         CHECK.due("in", ring.node(2, 2), 1);
         CHECK.due("ahead", ring.node(2, 3), -1);
         CHECK.due("first", ring.node(2, 4), 2);
-        list(ring, 2, 2);
+        CHECK.dueList(ring, 2, 2);
         CHECK.due("what is undone", ring.count(8), 1);
     }
 
@@ -82,35 +70,35 @@ public final class DeedsTest {
         CHECK.due("join no node", ring.join(5, 0), -1);
         CHECK.due("join by no node", ring.join(2, 5), -1);
         CHECK.due("join by no node", ring.join(2, -1), -1);
-        list(ring, 1, 0);
+        CHECK.dueList(ring, 1, 0);
         CHECK.due("none ahead", ring.node(1, 3), -1);
         // a has none AHEAD: b is it; of k (13 from b on), l (1), m (8), n (11) k is beyond a (12)
         CHECK.due("tidy b", ring.tidy(1), 0);
         CHECK.due("ahead of a", ring.node(0, 3), 1);
-        holders(ring, 1, 0, 0, 0);
+        CHECK.dueHolders(ring, 1, 0, 0, 0);
         CHECK.due("held by a", ring.node(0, 5), 14);
         CHECK.due("held by b", ring.node(1, 5), 1);
         // a's FIRST is itself, ahead of it b: that one is meant
         CHECK.due("tidy a", ring.tidy(0), 1);
-        list(ring, 0, 1);
+        CHECK.dueList(ring, 0, 1);
         CHECK.due("ahead of b", ring.node(1, 3), 0);
-        holders(ring, 1, 0, 0, 0);
+        CHECK.dueHolders(ring, 1, 0, 0, 0);
         CHECK.due("join c", ring.join(2, 1), 0);
-        list(ring, 2, 0);
+        CHECK.dueList(ring, 2, 0);
         CHECK.due("tidy c, short", ring.tidy(2), 0);
-        list(ring, 2, 0);
+        CHECK.dueList(ring, 2, 0);
         CHECK.due("ahead of a is c", ring.node(0, 3), 2);
-        holders(ring, 1, 2, 0, 0);
+        CHECK.dueHolders(ring, 1, 2, 0, 0);
         CHECK.due("join d over b", ring.join(3, 0), 0);
-        list(ring, 3, 0, 1);
+        CHECK.dueList(ring, 3, 0, 1);
         CHECK.due("tidy d", ring.tidy(3), 0);
         CHECK.due("ahead of a is d", ring.node(0, 3), 3);
         // m lies at d, but that one is shy
-        holders(ring, 1, 2, 0, 0);
+        CHECK.dueHolders(ring, 1, 2, 0, 0);
         CHECK.due("astray", ring.astray(), 4);
         // the one AHEAD of b's FIRST is between: d is meant, then its LIST, b itself not
         CHECK.due("tidy b", ring.tidy(1), 3);
-        list(ring, 1, 3, 0);
+        CHECK.dueList(ring, 1, 3, 0);
         CHECK.due("ahead of d", ring.node(3, 3), 1);
         // c is farther from a than d: a keeps d
         CHECK.due("tidy c", ring.tidy(2), 3);
@@ -125,7 +113,7 @@ public final class DeedsTest {
         NameRing ring = CHECK.ringOf("circle 16;list 4;node a plain at 0;node b plain at 4;node c plain at 8;");
         ring.start(0);
         CHECK.due("tidy alone", ring.tidy(0), 0);
-        list(ring, 0, 0);
+        CHECK.dueList(ring, 0, 0);
         ring.join(1, 0);
         ring.join(2, 0);
         for (int i = 0; i < 3; i++) {
@@ -133,15 +121,15 @@ public final class DeedsTest {
             ring.tidy(1);
             ring.tidy(2);
         }
-        list(ring, 0, 1, 2);
-        list(ring, 1, 2, 0);
-        list(ring, 2, 0, 1);
+        CHECK.dueList(ring, 0, 1, 2);
+        CHECK.dueList(ring, 1, 2, 0);
+        CHECK.dueList(ring, 2, 0, 1);
         // c comes again: a's LIST has it still, but itself it doesn't list
         ring.fail(2);
-        list(ring, 2);
-        list(ring, 0, 1, 2);
+        CHECK.dueList(ring, 2);
+        CHECK.dueList(ring, 0, 1, 2);
         CHECK.due("join again", ring.join(2, 0), 0);
-        list(ring, 2, 0, 1);
+        CHECK.dueList(ring, 2, 0, 1);
         CHECK.due("none ahead", ring.node(2, 3), -1);
         CHECK.due("first of b is c again", ring.node(1, 4), 2);
     }
@@ -157,15 +145,15 @@ public final class DeedsTest {
         CHECK.due("its FIRST is itself still", ring.leave(0), false);
         ring.tidy(1);
         ring.tidy(0);
-        holders(ring, 1, -1, -1, 0);
+        CHECK.dueHolders(ring, 1, -1, -1, 0);
         CHECK.due("leave none", ring.leave(5), false);
         CHECK.due("leave none", ring.leave(-1), false);
         CHECK.due("leave", ring.leave(0), true);
-        holders(ring, 1, -1, -1, 1);
+        CHECK.dueHolders(ring, 1, -1, -1, 1);
         CHECK.due("who is IN", ring.count(4), 2);
         CHECK.due("it has nothing", ring.node(0, 3), -1);
-        list(ring, 0);
-        list(ring, 1, 0);
+        CHECK.dueList(ring, 0);
+        CHECK.dueList(ring, 1, 0);
         CHECK.due("b has no FIRST", ring.node(1, 4), -1);
         CHECK.due("b can't leave", ring.leave(1), false);
     }
@@ -186,9 +174,9 @@ public final class DeedsTest {
         CHECK.due("fail none", ring.fail(5), -1);
         CHECK.due("fail none", ring.fail(-1), -1);
         CHECK.due("fail", ring.fail(0), 2);
-        holders(ring, 1, -1, -1, -1);
+        CHECK.dueHolders(ring, 1, -1, -1, -1);
         CHECK.due("lost", ring.lost(), 14);
-        list(ring, 1, 0);
+        CHECK.dueList(ring, 1, 0);
         CHECK.due("ahead that is OUT", ring.node(1, 3), 0);
         CHECK.due("finger that is OUT", ring.finger(1, 3), 0);
         CHECK.due("flush OUT", ring.flush(0), -1);
@@ -196,7 +184,7 @@ public final class DeedsTest {
         CHECK.due("flush none", ring.flush(-1), -1);
         // the LIST's a and two FINGERS; the one AHEAD doesn't count
         CHECK.due("flush", ring.flush(1), 3);
-        list(ring, 1);
+        CHECK.dueList(ring, 1);
         CHECK.due("ahead", ring.node(1, 3), -1);
         CHECK.due("finger", ring.finger(1, 3), -1);
         CHECK.due("flush again", ring.flush(1), 0);
@@ -264,12 +252,12 @@ public final class DeedsTest {
         ring.join(3, 0);
         ring.tidy(3);
         ring.tidy(0);
-        holders(ring, -1, -1, 0, 0);
+        CHECK.dueHolders(ring, -1, -1, 0, 0);
         CHECK.due("hand no node", ring.hand(5), -1);
         CHECK.due("hand no node", ring.hand(-1), -1);
         // m lies at d, to which a hands it; n goes round to a itself
         CHECK.due("hand", ring.hand(0), 1);
-        holders(ring, -1, -1, 3, 0);
+        CHECK.dueHolders(ring, -1, -1, 3, 0);
         CHECK.due("hand again", ring.hand(0), 0);
         CHECK.due("put k", ring.put(0, 3), 3);
         CHECK.due("put l", ring.put(1, 3), 3);
@@ -280,7 +268,7 @@ public final class DeedsTest {
         ring.tidy(0);
         CHECK.due("k went to b by tidying", ring.key(0, 1), 1);
         CHECK.due("put l again", ring.put(1, 1), 3);
-        holders(ring, 1, 3, 3, 0);
+        CHECK.dueHolders(ring, 1, 3, 3, 0);
     }
 
     private static void withoutFirst() {

@@ -18,22 +18,14 @@ public final class LanguageTest {
         CHECK.finish("LanguageTest");
     }
 
-    /** kind + 16 * place, where the token is marked by ^ in the text. */
     private static void ringFault(int kind, String marked) {
-        NameRing ring = new NameRing();
-        String text = marked.replace("^", "");
-        CHECK.due("ring of " + marked, Check.tellRing(ring, text), kind == 0 ? 0 : kind + 16 * marked.indexOf('^'));
-        CHECK.due("signs behind " + marked, ring.count(9), 0);
+        CHECK.dueRingFault(kind, marked);
     }
 
     private static void workFault(int kind, String marked) {
         NameRing ring = CHECK.ringOf("circle 16;node a plain at 0;node b plain at 4;key k at 1;");
-        CHECK.due("ring before " + marked, Check.tellWork(ring, "begin a;"), 0);
-        String text = marked.replace("^", "");
-        CHECK.due("work of " + marked, Check.tellWork(ring, text), kind == 0 ? 0 : kind + 16 * marked.indexOf('^'));
-        if (kind != 0) {
-            CHECK.due("the old work stays behind " + marked, ring.count(6), 1);
-        }
+        CHECK.due("work before " + marked, Check.tellWork(ring, "begin a;"), 0);
+        CHECK.dueWorkFault(ring, kind, marked);
     }
 
     private static int lieOf(String law, int told, int which) {

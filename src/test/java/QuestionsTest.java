@@ -71,54 +71,37 @@ public final class QuestionsTest {
         CHECK.due("all is as ahead", ring.count(8), 16);
     }
 
-    private static void path(NameRing ring, int node, int place, int found, int... route) {
-        String call = node + " " + place;
-        CHECK.due("find " + call, ring.find(node, place), found);
-        CHECK.due("steps " + call, ring.steps(node, place), route.length);
-        for (int i = 0; i < route.length; i++) {
-            CHECK.due("route " + call + " " + i, ring.route(node, place, i), route[i]);
-        }
-        CHECK.dueNoSuchElement("route " + call, ring, node, place, route.length);
-        CHECK.dueNoSuchElement("route " + call, ring, node, place, -1);
-    }
-
-    private static void noPath(NameRing ring, int node, int place) {
-        CHECK.due("find " + node + " " + place, ring.find(node, place), -1);
-        CHECK.due("steps " + node + " " + place, ring.steps(node, place), -1);
-        CHECK.dueNoSuchElement("route " + node + " " + place, ring, node, place, 0);
-    }
-
     private static void finding() {
         NameRing ring = restingRing(2);
-        path(ring, 0, 1, 1);
-        path(ring, 0, 4, 1);
-        path(ring, 0, 5, 2, 1);
-        path(ring, 0, 8, 2, 1);
-        path(ring, 0, 9, 3, 2);
-        path(ring, 0, 13, 0, 2, 3);
-        path(ring, 0, 0, 0, 2, 3);
-        path(ring, 1, 1, 1, 3, 0);
-        noPath(ring, 0, 16);
-        noPath(ring, 0, -1);
-        noPath(ring, 4, 1);
-        noPath(ring, -1, 1);
+        CHECK.duePath(ring, 0, 1, 1);
+        CHECK.duePath(ring, 0, 4, 1);
+        CHECK.duePath(ring, 0, 5, 2, 1);
+        CHECK.duePath(ring, 0, 8, 2, 1);
+        CHECK.duePath(ring, 0, 9, 3, 2);
+        CHECK.duePath(ring, 0, 13, 0, 2, 3);
+        CHECK.duePath(ring, 0, 0, 0, 2, 3);
+        CHECK.duePath(ring, 1, 1, 1, 3, 0);
+        CHECK.dueNoPath(ring, 0, 16);
+        CHECK.dueNoPath(ring, 0, -1);
+        CHECK.dueNoPath(ring, 4, 1);
+        CHECK.dueNoPath(ring, -1, 1);
         ring.fail(2);
-        noPath(ring, 2, 1);
-        path(ring, 0, 9, 3, 1);
-        path(restingRing(1), 0, 0, 0, 1, 2, 3);
-        path(restingRing(3), 0, 0, 0, 3);
+        CHECK.dueNoPath(ring, 2, 1);
+        CHECK.duePath(ring, 0, 9, 3, 1);
+        CHECK.duePath(restingRing(1), 0, 0, 0, 1, 2, 3);
+        CHECK.duePath(restingRing(3), 0, 0, 0, 3);
     }
 
     private static void findingByFingers() {
         NameRing ring = restingRing(1);
-        path(ring, 0, 13, 0, 1, 2, 3);
+        CHECK.duePath(ring, 0, 13, 0, 1, 2, 3);
         ring.fix(0, 3);
-        path(ring, 0, 13, 0, 2, 3);
-        path(ring, 0, 8, 2, 1);
+        CHECK.duePath(ring, 0, 13, 0, 2, 3);
+        CHECK.duePath(ring, 0, 8, 2, 1);
         ring.fail(2);
         // c is asked no more, and b has no FIRST
-        noPath(ring, 0, 13);
-        path(ring, 0, 3, 1);
+        CHECK.dueNoPath(ring, 0, 13);
+        CHECK.duePath(ring, 0, 3, 1);
     }
 
     private static void keysAndOwners() {
@@ -195,9 +178,9 @@ public final class QuestionsTest {
         CHECK.due("a has no FIRST", ring.amiss(), 1);
         CHECK.due("the one ahead of c is OUT", ring.behind(), 4);
         // d finds what is up to a; all else comes to a, who has no FIRST
-        path(ring, 3, 15, 0);
-        noPath(ring, 3, 1);
-        noPath(ring, 0, 1);
+        CHECK.duePath(ring, 3, 15, 0);
+        CHECK.dueNoPath(ring, 3, 1);
+        CHECK.dueNoPath(ring, 0, 1);
         // of k, l, m, n d finds n alone
         CHECK.due("far", ring.far(3), 0);
         CHECK.due("toil", ring.toil(3), 0);
@@ -528,7 +511,7 @@ public final class QuestionsTest {
             CHECK.due("toil " + node, ring.toil(node), -1);
             CHECK.due("moves " + node, ring.moves(node), node == 1 ? 2 : -1);
             CHECK.due("hosts " + node, ring.hosts(node), node == 1 ? 0 : -1);
-            noPath(ring, node, 3);
+            CHECK.dueNoPath(ring, node, 3);
         }
     }
 }
