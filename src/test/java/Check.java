@@ -120,6 +120,49 @@ final class Check {
         return ring;
     }
 
+    /** An object with that RING, of which the first so many NODES are IN and all rest. */
+    NameRing settledRing(String text, int many) {
+        NameRing ring = ringOf(text);
+        ring.start(0);
+        for (int node = 1; node < many; node++) {
+            ring.join(node, 0);
+        }
+        for (int i = 0; i < many + 3; i++) {
+            for (int node = 0; node < many; node++) {
+                ring.tidy(node);
+            }
+        }
+        due("those IN of " + text, ring.count(4), (1 << many) - 1);
+        due("rests of " + text, ring.rests(), 0);
+        due("amiss of " + text, ring.amiss(), 0);
+        due("behind of " + text, ring.behind(), 0);
+        return ring;
+    }
+
+    /** All that can be undone, or marked, as a text; of some NODES and KEYS. */
+    static String stateOf(NameRing ring, int nodes, int keys) {
+        StringBuilder text = new StringBuilder();
+        for (int node = 0; node < nodes; node++) {
+            for (int what = 2; what < 6; what++) {
+                text.append(ring.node(node, what)).append(' ');
+            }
+            for (int i = 0; i < 4; i++) {
+                text.append(ring.listed(node, i)).append(' ');
+            }
+            for (int i = 0; i < 8; i++) {
+                text.append(ring.finger(node, i)).append(' ');
+            }
+        }
+        for (int key = 0; key < keys; key++) {
+            text.append(ring.key(key, 1)).append(' ');
+        }
+        return text.append(ring.count(4)).append(' ').append(ring.count(5)).toString();
+    }
+
+    void dueText(String what, String got, String want) {
+        due(what + ", which is " + got + " for " + want, got.equals(want), true);
+    }
+
     /**
      * Does deeds in short: b0 BEGIN, j10 JOIN of 1 by 0, l0 LEAVE, x0 FAIL, t0 TIDY, f0 FLUSH, i03 FIX of 0's FINGER 3,
      * m0 MEND, p10 PUT of KEY 1 by 0, h0 HAND; each of them must be one that can be.
