@@ -207,9 +207,17 @@ public final class DeedEdgesTest {
 
     static void promise07Tells8Fingers() {
         NameRing ring = CHECK.settledRing("circle 256;node a plain at 0;node b plain at 1;node c plain at 2;node d plain at 4;"
-                + "node e plain at 8;node f plain at 16;node g plain at 32;node h plain at 128;", 8);
+                + "node e plain at 8;node f plain at 16;node g plain at 32;node h plain at 128;key k at 1;", 8);
         CHECK.due("mend", ring.mend(0), 8);
         dueFingers(ring, 0, 1, 2, 3, 4, 5, 6, 7, 7);
+        // not those of the next one, nor who holds a KEY
+        CHECK.due("mend", ring.mend(1), 8);
+        CHECK.due("no finger 8", ring.finger(0, 8), -1);
+        CHECK.due("no finger -1", ring.finger(1, -1), -1);
+        CHECK.due("put", ring.put(0, 0), 1);
+        for (int i = 0; i < 8; i++) {
+            CHECK.due("no ninth node " + i, ring.finger(8, i), -1);
+        }
     }
 
     static void promise07AnswersNoneForOthers() {
@@ -589,6 +597,24 @@ public final class DeedEdgesTest {
         CHECK.due("finger of c", ring.finger(2, 2), 0);
     }
 
+    static void promise11TheOthersKeepAllThatTheyHave() {
+        NameRing ring = richRing();
+        CHECK.dueDeeds(ring, "l0");
+        dueOthersOfRich(ring);
+    }
+
+    /** a is OUT; b and c have all that they had. */
+    private static void dueOthersOfRich(NameRing ring) {
+        CHECK.dueList(ring, 1, 2, 0);
+        CHECK.dueList(ring, 2, 0, 1);
+        dueFingers(ring, 1, 2, 2, 2, 0);
+        dueFingers(ring, 2, 0, 0, 0, 0);
+        CHECK.due("ahead of b", ring.node(1, 3), 0);
+        CHECK.due("ahead of c", ring.node(2, 3), 1);
+        CHECK.due("b holds k", ring.key(0, 1), 1);
+        CHECK.due("c holds l", ring.key(1, 1), 2);
+    }
+
     static void promise11CantBeOfOneAlone() {
         NameRing ring = CHECK.ringOf(FOUR);
         CHECK.dueDeeds(ring, "b0");
@@ -644,6 +670,17 @@ public final class DeedEdgesTest {
         CHECK.due("IN", ring.count(4), 5);
         CHECK.dueList(ring, 0, 1, 2);
         CHECK.due("ahead of c", ring.node(2, 3), 1);
+    }
+
+    static void promise12TheOthersKeepAllThatTheyHave() {
+        NameRing ring = richRing();
+        CHECK.dueDeeds(ring, "x0");
+        dueOthersOfRich(ring);
+        // and KEYS, of which one is held, are no FINGERS of an eighth one
+        NameRing eight = CHECK.ringOf("circle 16;node a plain at 0;node b plain at 1;node c plain at 2;node d plain at 3;"
+                + "node e plain at 4;node f plain at 5;node g plain at 6;node h plain at 7;key k at 0;");
+        CHECK.dueDeeds(eight, "b0 p00 j70 x7");
+        CHECK.dueHolders(eight, 0);
     }
 
     static void promise12OneAloneMayFail() {
@@ -1249,6 +1286,37 @@ public final class DeedEdgesTest {
         dueFingers(ring, 0, 0);
     }
 
+    static void promise19TheLast16OfManyAreUndoneRightly() {
+        NameRing ring = CHECK.ringOf(FOUR);
+        String[] deeds = {"b0", "x0", "b1", "x1", "b2", "x2", "b3", "x3"};
+        int[] in = {1, 0, 2, 0, 4, 0, 8, 0};
+        for (int many = 1; many <= 60; many++) {
+            CHECK.dueDeeds(ring, deeds[(many - 1) % 8]);
+        }
+        for (int many = 60; many > 44; many--) {
+            CHECK.due("who is IN", ring.count(4), in[(many - 1) % 8]);
+            CHECK.due("undo", ring.undo(), true);
+        }
+        CHECK.due("who is IN", ring.count(4), in[43 % 8]);
+        CHECK.due("no more", ring.undo(), false);
+    }
+
+    static void promise19WhatIsRefusedBehind16LeavesThem() {
+        NameRing ring = CHECK.ringOf("circle 256;node a plain at 0;node b plain at 4;key k at 1;");
+        CHECK.dueDeeds(ring, "b0 p00 i00 i01 i02 i03 i04 i05 i06 i07 f0 f0 f0 f0 f0 f0");
+        CHECK.due("16", ring.count(8), 16);
+        CHECK.due("begin", ring.start(1), false);
+        CHECK.due("join", ring.join(0, 0), -1);
+        CHECK.due("leave", ring.leave(0), false);
+        CHECK.due("16 still", ring.count(8), 16);
+        for (int i = 0; i < 16; i++) {
+            CHECK.due("undo", ring.undo(), true);
+        }
+        dueNothing(ring, 0);
+        CHECK.dueHolders(ring, -1);
+        CHECK.due("no more", ring.undo(), false);
+    }
+
     static void promise19WhatCantBeIsNotUndone() {
         NameRing ring = CHECK.ringOf(FOUR + "key k at 1;");
         CHECK.dueDeeds(ring, "b0");
@@ -1347,6 +1415,23 @@ public final class DeedEdgesTest {
         CHECK.due("back", ring.mark(1, true), true);
         CHECK.due("eight", ring.count(7), 8);
         CHECK.due("no more find room", ring.see(5, 0, true), false);
+    }
+
+    static void promise47HoldsWhatWasSeenNotOnlyHowMany() {
+        NameRing ring = CHECK.settledRing("list 1;" + FOUR, 4);
+        // to 1: a 0, d 1, c 2, b 3; to 13: d 0, c 1, b 2, a 3
+        CHECK.due("lay 0", ring.mark(0, false), true);
+        CHECK.due("see", ring.see(1, 1, true), true);
+        CHECK.due("lay 1", ring.mark(1, false), true);
+        int[][] others = {{13, 1, 1}, {1, 2, 1}, {1, 1, 0}};
+        int[] who = {7, 6, 1};
+        for (int i = 0; i < 3; i++) {
+            CHECK.due("back 0", ring.mark(0, true), true);
+            CHECK.due("see", ring.see(others[i][0], others[i][1], others[i][2] == 1), true);
+            CHECK.due("who", ring.who(), who[i]);
+            CHECK.due("back 1", ring.mark(1, true), true);
+            CHECK.due("b, c, d", ring.who(), 14);
+        }
     }
 
     static void promise47LeavesTheTexts() {

@@ -185,6 +185,23 @@ public final class QuestionEdgesTest {
         CHECK.duePath(ring, 3, 12, 3, 0, 2);
     }
 
+    static void promise21AsksOnAtTheListIfThatIsFarther() {
+        NameRing ring = CHECK.settledRing("list 3;" + FOUR, 4);
+        CHECK.dueDeeds(ring, "i00 i01");
+        CHECK.due("the FINGERS are b", ring.finger(0, 1), 1);
+        CHECK.duePath(ring, 0, 13, 0, 3);
+    }
+
+    static void promise21AsksOnAtTheFirstAndTheLastFinger() {
+        NameRing ring = CHECK.settledRing("list 1;circle 16;node a plain at 0;node b plain at 8;node c plain at 4;", 2);
+        CHECK.dueDeeds(ring, "i00 j20 t2 t0");
+        CHECK.dueList(ring, 0, 2);
+        CHECK.duePath(ring, 0, 10, 0, 1);
+        ring = CHECK.settledRing("list 1;circle 256;node a plain at 0;node b plain at 10;node c plain at 20;node d plain at 200;", 4);
+        CHECK.dueDeeds(ring, "i07");
+        CHECK.duePath(ring, 0, 201, 0, 3);
+    }
+
     static void promise21DoesNotAskOnAtThoseThatAreOut() {
         NameRing ring = CHECK.settledRing("list 3;" + FOUR, 4);
         CHECK.dueDeeds(ring, "m0 x2");
@@ -512,6 +529,23 @@ public final class QuestionEdgesTest {
         CHECK.due("one", ring.rests(), 1);
     }
 
+    static void promise30AListAloneMayChange() {
+        NameRing ring = CHECK.settledRing("list 1;" + FOUR, 3);
+        CHECK.dueDeeds(ring, "x1 f2");
+        // c is ahead of a and follows it, nobody is ahead of c; a forgets b
+        CHECK.due("one", ring.rests(), 1);
+        CHECK.dueDeeds(ring, "f0");
+        CHECK.due("none", ring.rests(), 0);
+    }
+
+    static void promise30TheOneAheadAloneMayChange() {
+        NameRing ring = CHECK.ringOf(FOUR);
+        CHECK.dueDeeds(ring, "b0 j10 t1 x1");
+        CHECK.dueList(ring, 0, 0);
+        CHECK.due("b is ahead of a", ring.node(0, 3), 1);
+        CHECK.due("one", ring.rests(), 1);
+    }
+
     static void promise30FingersThatAreOutChangeToo() {
         NameRing ring = CHECK.ringOf(FOUR);
         CHECK.dueDeeds(ring, "b0 j10 t1 t0 m0 x1 f0");
@@ -754,6 +788,15 @@ public final class QuestionEdgesTest {
         CHECK.due("b and d", ring.widest(), 1);
     }
 
+    static void promise39OfEqualOnesIsTheFirstIfAllArcsAre1() {
+        NameRing ring = CHECK.ringOf("circle 8;node a plain at 3;node b plain at 4;node c plain at 5;node d plain at 6;node e plain at 7;"
+                + "node f plain at 0;node g plain at 1;node h plain at 2;");
+        CHECK.dueDeeds(ring, "b7 j07 j17 j27 j37 j47 j57");
+        CHECK.due("h, from f", ring.widest(), 7);
+        CHECK.dueDeeds(ring, "j67");
+        CHECK.due("a", ring.widest(), 0);
+    }
+
     static void promise39IsTheGreatest() {
         NameRing ring = CHECK.settledRing(FOUR, 4);
         CHECK.dueDeeds(ring, "x1");
@@ -862,6 +905,15 @@ public final class QuestionEdgesTest {
         // b, its LIST, and d, ahead of it, are OUT
         CHECK.due("a knows c", ring.reaches(0), 5);
         CHECK.due("c knows nobody", ring.reaches(2), 4);
+    }
+
+    static void promise37KnowsByTheFirstAndTheLastFinger() {
+        NameRing ring = CHECK.settledRing("list 1;circle 16;node a plain at 0;node b plain at 8;node c plain at 4;node d plain at 12;", 2);
+        CHECK.dueDeeds(ring, "i00 j31 t3 j20 t2 t0 x2 x3");
+        CHECK.due("d, ahead of a, is OUT; so is c, its LIST", ring.reaches(0), 3);
+        ring = CHECK.settledRing("list 1;circle 256;node a plain at 0;node b plain at 10;node c plain at 200;node d plain at 220;", 4);
+        CHECK.dueDeeds(ring, "i07 x1 x3");
+        CHECK.due("c", ring.reaches(0), 5);
     }
 
     static void promise37GoesOnAndOn() {
@@ -1155,6 +1207,10 @@ public final class QuestionEdgesTest {
         NameRing ring = tornRing();
         // to 0: c over d, d at once, a not at all
         CHECK.due("each for itself", ring.ask(), 0);
+        ring = CHECK.settledRing("list 1;circle 16;node a plain at 8;node b plain at 12;node c plain at 0;node d plain at 4;", 4);
+        CHECK.dueDeeds(ring, "x1");
+        // to 0 none of a, c and d; to 1 .. 4 c alone; to 5 c over d, d at once, a not at all
+        CHECK.due("each for itself, behind those that are not found", ring.ask(), 5);
     }
 
     // ---- promise 46

@@ -521,6 +521,18 @@ public final class TextEdgesTest {
         CHECK.due("the sign ; had no room", ring.ring(), 1 + 16 * 1000);
     }
 
+    static void promise03AShorterTextEndsWhereItEnds() {
+        NameRing ring = new NameRing();
+        CHECK.due("long", Check.tellRing(ring, "9".repeat(40)), 1);
+        CHECK.due("a number at the end", Check.tellRing(ring, "list 3"), 1 + 16 * 6);
+        CHECK.due("long", Check.tellRing(ring, "z".repeat(40)), 1);
+        CHECK.due("a word at the end", Check.tellRing(ring, "key k"), 1 + 16 * 5);
+        CHECK.due("long", Check.tellRing(ring, ";".repeat(40)), 1);
+        CHECK.due("the end for a sign", Check.tellRing(ring, "list 3"), 1 + 16 * 6);
+        CHECK.due("right", Check.tellRing(ring, "list 3;"), 0);
+        CHECK.due("a work, too", Check.tellWork(ring, "begin"), 1 + 16 * 5);
+    }
+
     static void promise03AllStaysWithAFault() {
         NameRing ring = CHECK.ringOf(nodes(3) + keys(2) + "list 3;");
         CHECK.due("work", Check.tellWork(ring, "begin na;tidy na;"), 0);
