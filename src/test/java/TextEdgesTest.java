@@ -128,6 +128,15 @@ public final class TextEdgesTest {
         CHECK.due("1000 have room still", Check.feed(ring, " ".repeat(1000)), 1000);
     }
 
+    static void promise02WhatIsLeftOutPartsNoTokens() {
+        NameRing ring = new NameRing();
+        Check.feed(ring, "cir\tcle\u0000 1\r6\u007F;li\tst\t3;");
+        CHECK.due("signs", ring.count(9), 16);
+        CHECK.due("ring", ring.ring(), 0);
+        CHECK.due("circle", ring.count(0), 16);
+        CHECK.due("list", ring.count(1), 3);
+    }
+
     static void promise02AnswersHowManyThereAre() {
         NameRing ring = new NameRing();
         CHECK.due("five", Check.feed(ring, "abcde"), 5);
@@ -501,6 +510,16 @@ public final class TextEdgesTest {
         workFault(1, "put ^list a;");
         workFault(1, "begin a;".repeat(40) + "^list;");
         ringFault(1, "lies (((((^)))));");
+        // where they can't stand, it does not matter that they are there a second time, told already, or one too many
+        ringFault(1, "circle 16;list ^circle;");
+        ringFault(1, "list 2;circle ^list;");
+        ringFault(1, "lies told;list ^lies;");
+        ringFault(1, "key a at 1;^a at 2;");
+        ringFault(1, nodes(8) + "list ^node;");
+        ringFault(1, keys(10) + "circle ^key;");
+        workFault(1, "begin a;".repeat(40) + "^begins a;");
+        workFault(1, "begin a;".repeat(39) + "begin a ^begin");
+        ringFault(0, "circle 16;lies circle + circle;");
     }
 
     static void promise03TheEndIsATokenAtTheTextsLength() {
