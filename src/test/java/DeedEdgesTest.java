@@ -1228,8 +1228,12 @@ public final class DeedEdgesTest {
     }
 
     static void promise19UndoesOneByOne() {
+        dueUndoneOneByOne("b0", "p00", "j10", "t1", "t0", "i00");
+        dueUndoneOneByOne("b0", "p00", "f0", "h0", "m0", "x0");
+    }
+
+    private static void dueUndoneOneByOne(String... deeds) {
         NameRing ring = CHECK.ringOf(FOUR + "key k at 1;");
-        String[] deeds = {"b0", "p00", "j10", "t1", "t0", "i00", "f0", "h0", "m1", "x0"};
         String[] states = new String[deeds.length];
         for (int i = 0; i < deeds.length; i++) {
             states[i] = Check.stateOf(ring, 2, 1);

@@ -21,7 +21,7 @@ public final class RandomRunsTest {
     }
 
     public static void main(String[] args) {
-        int runs = args.length > 0 ? Integer.parseInt(args[0]) : 1500;
+        int runs = args.length > 0 ? Integer.parseInt(args[0]) : 2000;
         for (int seed = 0; seed < runs; seed++) {
             RandomRunsTest run = new RandomRunsTest(seed);
             String wrong = run.go();
@@ -41,7 +41,8 @@ public final class RandomRunsTest {
     private String go() {
         try {
             tellRing(0.0);
-            while (calls < 500) {
+            // a text takes some hundred calls, and an object serves 512
+            while (calls < 380) {
                 int r = below(100);
                 if (r < 1) {
                     tellRing(0.8);
