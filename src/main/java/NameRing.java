@@ -911,7 +911,12 @@ public final class NameRing {
             }
             if (kind == Tape.SIGN) {
                 int value = valueOf(LEVEL_ALL, depth + 1);
-                tape.takeSign(')');
+                // not by takeSign: calls would stand nine deep here
+                if (tape.isSign(')')) {
+                    tape.step();
+                } else {
+                    tape.wrong(FAULT_PLACE);
+                }
                 return value;
             }
             if (token == WORD_NOT) {
@@ -1969,7 +1974,8 @@ public final class NameRing {
             int who = suspects(finder, inside);
             int best = NONE;
             int least = Integer.bitCount(who);
-            for (int place = 0; place < circle; place++) {
+            // one of WHO is always together with itself: nothing is less than 1
+            for (int place = 0; place < circle && least > 1; place++) {
                 int greatest = greatestGroup(finder, who, place);
                 if (greatest < least) {
                     best = place;
